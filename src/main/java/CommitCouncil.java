@@ -22,8 +22,8 @@ public final class CommitCouncil {
     private static final int LEADER_SORT = 2;
 
     private static final int OWN_BALLOT = 0;
-    private static final int PREPARED = 1;
-    private static final int ABORTED = 2;
+    private static final int WORD_PREPARED = 1;
+    private static final int WORD_ABORTED = 2;
     private static final int COMMIT = 1;
     private static final int ABORT = 2;
 
@@ -63,12 +63,12 @@ public final class CommitCouncil {
 
     public boolean prepare(int manager) throws IndexOutOfBoundsException {
         checkOne(manager, managers.length);
-        return propose(manager, Manager.PREPARED, PREPARED);
+        return propose(manager, Manager.PREPARED, WORD_PREPARED);
     }
 
     public boolean refuse(int manager) throws IndexOutOfBoundsException {
         checkOne(manager, managers.length);
-        return propose(manager, Manager.REFUSED, ABORTED);
+        return propose(manager, Manager.REFUSED, WORD_ABORTED);
     }
 
     public boolean resend(int manager) throws IndexOutOfBoundsException {
@@ -249,7 +249,7 @@ public final class CommitCouncil {
         int committed = howManyManagers(Manager.COMMITTED);
         int total = howManyManagers(Manager.ABORTED) > 0 ? committed : 0;
         for (int m = 0; m < managers.length; m++) {
-            if (managers[m].state == Manager.COMMITTED && managers[m].proposed != PREPARED) {
+            if (managers[m].state == Manager.COMMITTED && managers[m].proposed != WORD_PREPARED) {
                 total++;
             }
             if (ledger.unlike[m]) {
@@ -315,8 +315,8 @@ public final class CommitCouncil {
         int prepared = 0;
         int aborted = 0;
         for (int m = 0; m < managers.length; m++) {
-            prepared += ledger.words[m] == PREPARED ? 1 : 0;
-            aborted += ledger.words[m] == ABORTED ? 1 : 0;
+            prepared += ledger.words[m] == WORD_PREPARED ? 1 : 0;
+            aborted += ledger.words[m] == WORD_ABORTED ? 1 : 0;
         }
         switch (decision) {
             case COMMIT: return prepared == managers.length;
@@ -503,7 +503,7 @@ public final class CommitCouncil {
         leader.phase = Leader.VOTING;
         for (int m = 0; m < managers.length; m++) {
             int vote = leader.latest[m];
-            sendVotes(m, leader.ballot, vote == 0 ? ABORTED : wordOf(vote));
+            sendVotes(m, leader.ballot, vote == 0 ? WORD_ABORTED : wordOf(vote));
         }
     }
 
@@ -600,11 +600,11 @@ public final class CommitCouncil {
                 return decision;
             }
             int word = outcomeAfter(manager, acceptor, vote);
-            if (word != PREPARED) {
-                return word == ABORTED ? ABORT : 0;
+            if (word != WORD_PREPARED) {
+                return word == WORD_ABORTED ? ABORT : 0;
             }
             for (int m = 0; m < outcomes.length; m++) {
-                if (m != manager && outcomes[m] != PREPARED) {
+                if (m != manager && outcomes[m] != WORD_PREPARED) {
                     return 0;
                 }
             }

@@ -41,6 +41,7 @@ public final class PromiseTests {
         chosen();
         count();
         astray();
+        ballotsOf512Calls();
         manyCallsThrowNothing();
         System.out.println(wrong == 0 ? "all answers are as due" : wrong + " answers are not as due");
         if (wrong != 0) {
@@ -1120,6 +1121,32 @@ public final class PromiseTests {
         due("and none astray", y.astray(), 0);
     }
 
+    /** As many ballots as 512 calls can begin: nobody is there to ask, so that one calm makes room for 133 more. */
+    private static void ballotsOf512Calls() {
+        section = "512 calls";
+        CommitCouncil x = new CommitCouncil(1, 1);
+        x.crash(1, 0);
+        x.crash(1, 1);
+        x.crash(1, 2);
+        int ballot = 0;
+        for (int k = 3; k < 512; k++) {
+            if ((k - 3) % 134 == 133) {
+                due("calm", x.calm(400), 399);
+            } else {
+                ballot += 3;
+                due("begin(2)", x.begin(2), ballot);
+            }
+        }
+        due("the last", x.leader(2, 0), 506 * 3);
+        x.recover(1, 1);
+        x.recover(1, 2);
+        x.calm(400);
+        due("promised", x.acceptor(1, 0, 0), 506 * 3);
+        settle(x);
+        due("chosen", x.chosen(0), 2);
+        due("accepted", x.acceptor(1, 0, 2), 506 * 3);
+    }
+
     private static void manyCallsThrowNothing() {
         section = "far beyond 512 calls";
         CommitCouncil x = new CommitCouncil(6, 2);
@@ -1152,9 +1179,10 @@ public final class PromiseTests {
     }
 
     private static void fill(CommitCouncil x, int size) {
-        while (x.count(2) < size) {
+        for (int k = 0; k < 400 && x.count(2) < size; k++) {
             x.copy(0);
         }
+        due("made: filled", x.count(2), size);
     }
 
     private static void settle(CommitCouncil x) {
@@ -1164,9 +1192,10 @@ public final class PromiseTests {
     }
 
     private static void drain(CommitCouncil x) {
-        while (x.count(2) > 0) {
+        for (int k = 0; k < 400 && x.count(2) > 0; k++) {
             x.drop(0);
         }
+        due("made: drained", x.count(2), 0);
     }
 
     private static void dropAll(CommitCouncil x, int kind) {
