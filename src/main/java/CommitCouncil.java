@@ -406,9 +406,10 @@ public final class CommitCouncil {
             case VOTE:
                 return ballot >= acceptors[to].promised ? LEADERS : 0;
             case VOTED:
-                int vote = voteOf(ballot, mail.part(i, Mail.WORD));
-                int next = leaders[to].decisionAfter(mail.part(i, Mail.WHOSE), from, vote);
-                return next != leaders[to].decision ? managers.length : 0;
+                int whose = mail.part(i, Mail.WHOSE);
+                int word = leaders[to].outcomeAfter(whose, from, voteOf(ballot, mail.part(i, Mail.WORD)));
+                boolean decides = leaders[to].decisionWith(whose, word) != leaders[to].decision;
+                return decides ? managers.length : 0;
             case ASK:
                 return ballot > acceptors[to].promised ? 1 : 0;
             case TOLD:
@@ -594,12 +595,11 @@ public final class CommitCouncil {
             return at >= 0 && at < sights.length ? sights[at] : 0;
         }
 
-        /** The decision as it is once this VOTED has come. */
-        int decisionAfter(int manager, int acceptor, int vote) {
+        /** The decision as it is once this word is the manager's outcome (0: none yet). */
+        int decisionWith(int manager, int word) {
             if (decision != 0) {
                 return decision;
             }
-            int word = outcomeAfter(manager, acceptor, vote);
             if (word != WORD_PREPARED) {
                 return word == WORD_ABORTED ? ABORT : 0;
             }
@@ -616,16 +616,15 @@ public final class CommitCouncil {
             if (manager < 0 || manager >= outcomes.length || at < 0 || at >= sights.length) {
                 return;
             }
-            int nextOutcome = outcomeAfter(manager, acceptor, vote);
-            int nextDecision = decisionAfter(manager, acceptor, vote);
+            outcomes[manager] = outcomeAfter(manager, acceptor, vote);
+            decision = decisionWith(manager, outcomes[manager]);
             if (ballotOf(vote) > ballotOf(sights[at])) {
                 sights[at] = vote;
             }
-            outcomes[manager] = nextOutcome;
-            decision = nextDecision;
         }
 
-        private int outcomeAfter(int manager, int acceptor, int vote) {
+        /** The manager's outcome as it is once this VOTED has come. */
+        int outcomeAfter(int manager, int acceptor, int vote) {
             if (manager < 0 || manager >= outcomes.length) {
                 return 0;
             }

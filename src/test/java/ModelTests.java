@@ -1,20 +1,25 @@
 import java.util.ArrayList;
 import java.util.Arrays;
+import java.util.Collections;
 import java.util.HashMap;
 import java.util.HashSet;
 import java.util.List;
 import java.util.Map;
 import java.util.Random;
 import java.util.Set;
+import java.util.TreeMap;
+import java.util.function.ToIntFunction;
 
 /**
  * Random runs of calls on the class and on a plain model, written from the document's words alone. The model does an
- * act first and takes the whole of it back if more than 400 messages would be there; all that can be asked is
- * compared after each act. The seeds are fixed, so each run of the test is the same.
+ * act first and takes the whole of it back if more than 400 messages would be there. All that can be asked is compared
+ * too, on objects on which the run is played anew, as one object has 512 calls. The seeds are fixed, so each run of the
+ * test is the same.
  */
-public final class ModelTests {
+public final class ModelTests extends Check {
     private static final int RUNS = 700;
-    private static final int ACTS = 500;
+    private static final int ACTS = 400;
+    private static final int SOME_VIEWS = 250;
 
     private static int wrong = 0;
     private static final Map<String, Integer> reached = new HashMap<>();
@@ -25,24 +30,38 @@ public final class ModelTests {
         }
         // A run that never comes to these would compare nothing worth comparing.
         for (String what : new String[] {"full", "no room for VOTE", "no room for VOTED", "no room for TOLD",
-            "no room for begin", "commit", "abort", "commit after a ballot", "ballot above 20", "astray asked"}) {
-            if (!reached.containsKey(what)) {
-                wrong++;
-                System.out.println("no run reached: " + what);
-            }
+            "no room for begin", "commit", "abort", "commit after a ballot", "ballot above 20", "views asked"}) {
+            due("how often runs reached: " + what, reached.getOrDefault(what, 0) > 0, true);
         }
-        System.out.println(wrong == 0 ? "all answers are as due " + reached : wrong + " answers are not as due");
-        if (wrong != 0) {
-            System.exit(1);
-        }
+        System.out.println(new TreeMap<>(reached));
+        end();
     }
 
     private static void play(int seed) {
+        section = "seed " + seed;
         Random random = new Random(seed);
         int managers = random.nextInt(9);
         int f = random.nextInt(4);
-        CommitCouncil x = new CommitCouncil(managers, f);
-        Model model = new Model(managers, f);
+        Run run = new Run(new Council(managers, f), new Model(managers, f), new ArrayList<>());
+        int[] weights = weights(random, seed);
+        for (int k = 0; k < ACTS && wrong == 0; k++) {
+            if (seed % 5 == 1) {
+                actInAFullRow(run, random);
+            } else {
+                act(run, random, weights);
+            }
+            if (k == ACTS - 1) {
+                compare(run, managers, f, viewsOf(run.model));
+            } else if (seed % 50 == 0 || random.nextInt(16) == 0) {
+                List<View> views = viewsOf(run.model);
+                Collections.shuffle(views, random);
+                compare(run, managers, f, views.subList(0, Math.min(SOME_VIEWS, views.size())));
+            }
+        }
+        note(run.model);
+    }
+
+    private static int[] weights(Random random, int seed) {
         int[] weights = new int[13];
         for (int k = 0; k < weights.length; k++) {
             weights[k] = random.nextInt(3) == 0 ? 0 : 1 + random.nextInt(20);
@@ -56,15 +75,7 @@ public final class ModelTests {
         weights[9] = seed % 2 == 0 ? weights[9] / 3 : 0;
         weights[10] = weights[9] * 2;
         weights[1] = random.nextInt(3) == 0 ? weights[1] : 0;
-        StringBuilder story = new StringBuilder();
-        for (int k = 0; k < ACTS && wrong == 0; k++) {
-            act(x, model, random, weights, seed, story);
-            // Every answer is asked for after some acts, and after all of a few runs.
-            if (seed % 50 == 0 || random.nextInt(8) == 0 || k > ACTS - 3) {
-                compare(x, model, seed, story);
-            }
-        }
-        note(model);
+        return weights;
     }
 
     private static void note(Model model) {
@@ -107,10 +118,20 @@ public final class ModelTests {
         return random.nextInt(40) == 0 ? random.nextInt(12) - 4 : random.nextInt(Math.max(1, many));
     }
 
-    private static void act(CommitCouncil x, Model y, Random random, int[] weights, int seed, StringBuilder story) {
-        int m = oneOf(random, y.r);
+    private record Act(String name, int... a) {
+        @Override
+        public String toString() {
+            return name + Arrays.toString(a);
+        }
+    }
+
+    private record Run(Council x, Model model, List<Act> acts) {
+    }
+
+    private static void act(Run run, Random random, int[] weights) {
+        int m = oneOf(random, run.model.r);
         int l = oneOf(random, 3);
-        int size = y.state.row.size();
+        int size = run.model.state.row.size();
         int i = random.nextInt(3) == 0 ? 0 : oneOf(random, size);
         if (random.nextInt(3) == 0) {
             i = size - 1;
@@ -118,43 +139,67 @@ public final class ModelTests {
         int sort = oneOf(random, 3);
         int one = oneOf(random, 4);
         int n = random.nextInt(30) == 0 ? random.nextInt(500) - 40 : random.nextInt(12);
-        Run run = new Run(x, y, seed, story);
         switch (pick(random, weights)) {
-            case 0: same(run, "prepare", m); break;
-            case 1: same(run, "refuse", m); break;
-            case 2: same(run, "resend", m); break;
-            case 3: same(run, "question", m); break;
-            case 4: same(run, "begin", l); break;
-            case 5: case 11: same(run, "deliver", i); break;
-            case 6: same(run, "drop", i); break;
-            case 7: same(run, "copy", i); break;
-            case 8: case 12: same(run, "calm", n); break;
-            case 9: same(run, "crash", sort, one); break;
-            default: same(run, "recover", sort, one); break;
+            case 0: same(run, new Act("prepare", m)); break;
+            case 1: same(run, new Act("refuse", m)); break;
+            case 2: same(run, new Act("resend", m)); break;
+            case 3: same(run, new Act("question", m)); break;
+            case 4: same(run, new Act("begin", l)); break;
+            case 5: case 11: same(run, new Act("deliver", i)); break;
+            case 6: same(run, new Act("drop", i)); break;
+            case 7: same(run, new Act("copy", i)); break;
+            case 8: case 12: same(run, new Act("calm", n)); break;
+            case 9: same(run, new Act("crash", sort, one)); break;
+            default: same(run, new Act("recover", sort, one)); break;
         }
     }
 
-    private record Run(CommitCouncil x, Model y, int seed, StringBuilder story) {
+    /** All propose, most of their VOTES come, QUESTIONS fill the row, and what is none of these comes, if it can. */
+    private static void actInAFullRow(Run run, Random random) {
+        State s = run.model.state;
+        int done = run.acts.size();
+        int i = random.nextInt(Math.max(1, s.row.size()));
+        for (int k = 0; k < 400 && i < s.row.size() && s.row.get(i).parts[0] == QUESTION; k++) {
+            i = (i + 1) % s.row.size();
+        }
+        if (done < run.model.r) {
+            same(run, new Act(random.nextInt(9) == 0 ? "refuse" : "prepare", done));
+        } else if (done == run.model.r) {
+            same(run, new Act("calm", run.model.r * run.model.n - random.nextInt(4)));
+        } else if (random.nextInt(50) == 0) {
+            same(run, new Act("begin", random.nextInt(3)));
+        } else if (s.row.size() < 397) {
+            same(run, new Act("question", 0));
+        } else if (random.nextInt(6) == 0) {
+            same(run, new Act("drop", s.row.size() - 1));
+        } else {
+            same(run, new Act("deliver", i));
+        }
     }
 
-    private static void same(Run run, String name, int... a) {
-        run.story.append(name).append(Arrays.toString(a)).append(' ');
-        String got;
-        try {
-            got = String.valueOf(callOf(run.x, name, a));
-        } catch (RuntimeException e) {
-            got = e.getClass().getSimpleName();
-        }
-        String want = run.y.call(name, a);
+    private static void same(Run run, Act act) {
+        run.acts.add(act);
+        String got = answerOf(run.x, act);
+        String want = run.model.call(act.name, act.a);
         if (!got.equals(want)) {
-            fault(run.seed, run.story, name + " answered " + got + ", due is " + want);
+            wrong++;
+            fault(act + " answered " + got + ", due is " + want + ", after " + run.acts);
         }
-        if (run.y.state.row.size() == 400) {
+        if (run.model.state.row.size() == 400) {
             reach("full");
         }
     }
 
-    private static int callOf(CommitCouncil x, String name, int[] a) {
+    /** The answer, or the name of what is thrown. */
+    private static String answerOf(Council x, Act act) {
+        try {
+            return String.valueOf(callOf(x, act.name, act.a));
+        } catch (RuntimeException e) {
+            return e.getClass().getSimpleName();
+        }
+    }
+
+    private static int callOf(Council x, String name, int[] a) {
         switch (name) {
             case "prepare": return x.prepare(a[0]) ? 1 : 0;
             case "refuse": return x.refuse(a[0]) ? 1 : 0;
@@ -170,58 +215,88 @@ public final class ModelTests {
         }
     }
 
-    private static void fault(int seed, StringBuilder story, String what) {
-        wrong++;
-        System.out.println("seed " + seed + ": " + what + " after " + story);
+    /** Something that can be asked, and what the model answers. */
+    private record View(String name, ToIntFunction<Council> question, int want) {
     }
 
-    private static void compare(CommitCouncil x, Model y, int seed, StringBuilder story) {
-        State s = y.state;
-        List<int[]> pairs = new ArrayList<>();
-        for (int what = 0; what < 10; what++) {
-            pairs.add(new int[] {x.count(what), y.count(what)});
-        }
-        for (int i = 0; i < s.row.size(); i++) {
-            Message p = s.row.get(i);
-            for (int what = 0; what < 6; what++) {
-                pairs.add(new int[] {x.message(i, what), p.parts[what]});
-            }
-            for (int m = 0; m < y.r; m++) {
-                pairs.add(new int[] {x.told(i, m, true), p.toldBallot == null ? -1 : p.toldBallot[m]});
-                pairs.add(new int[] {x.told(i, m, false), p.toldWord == null ? -1 : p.toldWord[m]});
-            }
-        }
-        for (int m = 0; m < y.r; m++) {
-            pairs.add(new int[] {x.manager(m, 0), s.managerState[m]});
-            pairs.add(new int[] {x.manager(m, 1), s.up[0][m] ? 1 : 0});
-            pairs.add(new int[] {x.chosen(m), y.chosen(m)});
-            for (int a = 0; a < y.n; a++) {
-                pairs.add(new int[] {x.acceptor(a, m, 0), s.promised[a]});
-                pairs.add(new int[] {x.acceptor(a, m, 1), s.up[1][a] ? 1 : 0});
-                pairs.add(new int[] {x.acceptor(a, m, 2), s.acceptedBallot[a][m]});
-                pairs.add(new int[] {x.acceptor(a, m, 3), s.acceptedWord[a][m]});
-                for (int l = 0; l < 3; l++) {
-                    pairs.add(new int[] {x.seen(l, m, a), s.seenBallot[l][m][a]});
+    private static void compare(Run run, int managers, int f, List<View> views) {
+        Council x = null;
+        for (View view : views) {
+            if (x == null || x.left() == 0) {
+                x = new Council(managers, f);
+                for (Act act : run.acts) {
+                    answerOf(x, act);
                 }
             }
+            int got = view.question.applyAsInt(x);
+            if (got != view.want) {
+                wrong++;
+                fault(view.name + " answered " + got + ", due is " + view.want + ", after " + run.acts);
+                return;
+            }
+        }
+        reach("views asked");
+    }
+
+    private static List<View> viewsOf(Model y) {
+        State s = y.state;
+        List<View> views = new ArrayList<>();
+        for (int what = 0; what < 10; what++) {
+            int w = what;
+            views.add(new View("count(" + w + ")", x -> x.count(w), y.count(w)));
+        }
+        for (int i = 0; i < s.row.size(); i++) {
+            addMessage(views, i, s.row.get(i), y.r);
+        }
+        for (int m = 0; m < y.r; m++) {
+            addManager(views, m, y);
         }
         for (int l = 0; l < 3; l++) {
+            int leader = l;
             int[] want = {s.ballot[l], s.phase[l], s.highest[l], s.decision[l], s.up[2][l] ? 1 : 0,
                 s.phase[l] == 1 ? s.told.get(l).size() : 0};
             for (int what = 0; what < 6; what++) {
-                pairs.add(new int[] {x.leader(l, what), want[what]});
-            }
-            for (int m = 0; m < y.r; m++) {
-                pairs.add(new int[] {x.outcome(l, m), s.outcome[l][m]});
+                int w = what;
+                views.add(new View("leader(" + l + ", " + w + ")", x -> x.leader(leader, w), want[w]));
             }
         }
-        pairs.add(new int[] {x.astray(), 0});
-        reach("astray asked");
-        for (int k = 0; k < pairs.size(); k++) {
-            if (pairs.get(k)[0] != pairs.get(k)[1]) {
-                fault(seed, story, "view " + k + " is " + pairs.get(k)[0] + ", due is " + pairs.get(k)[1]);
-                return;
+        views.add(new View("astray()", Council::astray, 0));
+        return views;
+    }
+
+    private static void addMessage(List<View> views, int i, Message p, int managers) {
+        for (int what = 0; what < 6; what++) {
+            int w = what;
+            views.add(new View("message(" + i + ", " + w + ")", x -> x.message(i, w), p.parts[w]));
+        }
+        for (int manager = 0; manager < managers; manager++) {
+            int m = manager;
+            String name = "told(" + i + ", " + m + ", ";
+            views.add(new View(name + "true)", x -> x.told(i, m, true), p.toldBallot == null ? -1 : p.toldBallot[m]));
+            views.add(new View(name + "false)", x -> x.told(i, m, false), p.toldWord == null ? -1 : p.toldWord[m]));
+        }
+    }
+
+    private static void addManager(List<View> views, int m, Model y) {
+        State s = y.state;
+        views.add(new View("manager(" + m + ", 0)", x -> x.manager(m, 0), s.managerState[m]));
+        views.add(new View("manager(" + m + ", 1)", x -> x.manager(m, 1), s.up[0][m] ? 1 : 0));
+        views.add(new View("chosen(" + m + ")", x -> x.chosen(m), y.chosen(m)));
+        for (int acceptor = 0; acceptor < y.n; acceptor++) {
+            int a = acceptor;
+            int[] want = {s.promised[a], s.up[1][a] ? 1 : 0, s.acceptedBallot[a][m], s.acceptedWord[a][m]};
+            for (int what = 0; what < 4; what++) {
+                int w = what;
+                views.add(new View("acceptor(" + a + ", " + m + ", " + w + ")", x -> x.acceptor(a, m, w), want[w]));
             }
+            for (int leader = 0; leader < 3; leader++) {
+                int l = leader;
+                views.add(new View("seen(" + l + ", " + m + ", " + a + ")", x -> x.seen(l, m, a), s.seenBallot[l][m][a]));
+            }
+        }
+        for (int leader = 0; leader < 3; leader++) {
+            int l = leader;
+            views.add(new View("outcome(" + l + ", " + m + ")", x -> x.outcome(l, m), s.outcome[l][m]));
         }
     }
 

@@ -1,15 +1,6 @@
 /** Each promise of the document by itself: ordinary calls, the edges that it names, and wrong inputs. */
-public final class PromiseTests {
-    private static final int VOTE = 0;
-    private static final int VOTED = 1;
-    private static final int ASK = 2;
-    private static final int TOLD = 3;
-    private static final int DECISION = 4;
-    private static final int QUESTION = 5;
+public final class PromiseTests extends Check {
     private static final int[] ODD = {Integer.MIN_VALUE, -2, -1, 6, 7, 10, 400, Integer.MAX_VALUE};
-
-    private static int wrong = 0;
-    private static String section = "";
 
     public static void main(String[] args) {
         newObject();
@@ -41,12 +32,8 @@ public final class PromiseTests {
         chosen();
         count();
         astray();
-        ballotsOf512Calls();
         manyCallsThrowNothing();
-        System.out.println(wrong == 0 ? "all answers are as due" : wrong + " answers are not as due");
-        if (wrong != 0) {
-            System.exit(1);
-        }
+        end();
     }
 
     // ---- promise 1
@@ -57,7 +44,7 @@ public final class PromiseTests {
             {1, 1, 1, 3}, {6, 2, 6, 5}, {3, 1, 3, 3}, {0, 1, 3, 3}, {7, 2, 3, 5}, {-1, 0, 3, 3}, {4, 3, 4, 3},
             {2, -1, 2, 3}, {Integer.MIN_VALUE, Integer.MAX_VALUE, 3, 3}, {Integer.MAX_VALUE, Integer.MIN_VALUE, 3, 3}};
         for (int[] c : cases) {
-            CommitCouncil x = new CommitCouncil(c[0], c[1]);
+            Council x = new Council(c[0], c[1]);
             due("managers", x.count(0), c[2]);
             due("acceptors", x.count(1), c[3]);
             due("messages", x.count(2), 0);
@@ -90,7 +77,7 @@ public final class PromiseTests {
 
     private static void prepare() {
         section = "2 prepare";
-        CommitCouncil x = new CommitCouncil(3, 2);
+        Council x = new Council(3, 2);
         due("prepare(1)", x.prepare(1), true);
         due("state", x.manager(1, 0), 1);
         due("others", x.manager(0, 0), 0);
@@ -112,7 +99,7 @@ public final class PromiseTests {
         }
         due("what throws sends nothing", x.count(3), 10);
 
-        CommitCouncil full = filled(2, 1, 398);
+        Council full = filled(2, 1, 398);
         due("without room", full.prepare(1), false);
         due("still working", full.manager(1, 0), 0);
         due("as before", full.count(2), 398);
@@ -123,7 +110,7 @@ public final class PromiseTests {
 
     private static void refuse() {
         section = "3 refuse";
-        CommitCouncil x = new CommitCouncil(2, 1);
+        Council x = new Council(2, 1);
         due("refuse(0)", x.refuse(0), true);
         due("state", x.manager(0, 0), 2);
         due("messages", x.count(2), 3);
@@ -141,7 +128,7 @@ public final class PromiseTests {
         }
         due("nothing more", x.count(3), 3);
 
-        CommitCouncil full = filled(2, 1, 398);
+        Council full = filled(2, 1, 398);
         due("without room", full.refuse(1), false);
         due("still working", full.manager(1, 0), 0);
         full.drop(0);
@@ -150,7 +137,7 @@ public final class PromiseTests {
 
     private static void resend() {
         section = "4 resend";
-        CommitCouncil x = new CommitCouncil(3, 1);
+        Council x = new Council(3, 1);
         due("working", x.resend(0), false);
         x.prepare(0);
         x.refuse(1);
@@ -164,7 +151,7 @@ public final class PromiseTests {
         x.crash(0, 0);
         due("down", x.resend(0), false);
         x.recover(0, 0);
-        settle(x);
+        x.settle();
         due("aborted", x.manager(0, 0), 4);
         due("resend when aborted", x.resend(0), false);
         due("no message", x.count(2), 0);
@@ -173,10 +160,10 @@ public final class PromiseTests {
             throwsIndex("resend(odd)", () -> x.resend(odd));
         }
 
-        CommitCouncil done = committed(1, 1);
+        Council done = Council.committed(1, 1);
         due("resend when committed", done.resend(0), false);
 
-        CommitCouncil full = filled(1, 1, 398);
+        Council full = filled(1, 1, 398);
         due("without room", full.resend(0), false);
         due("as before", full.count(2), 398);
         full.drop(0);
@@ -185,7 +172,7 @@ public final class PromiseTests {
 
     private static void question() {
         section = "5 question";
-        CommitCouncil x = new CommitCouncil(3, 1);
+        Council x = new Council(3, 1);
         due("working", x.question(2), true);
         due("messages", x.count(2), 3);
         for (int l = 0; l < 3; l++) {
@@ -198,9 +185,9 @@ public final class PromiseTests {
         for (int odd : ODD) {
             throwsIndex("question(odd)", () -> x.question(odd));
         }
-        due("committed", committed(2, 1).question(1), true);
+        due("committed", Council.committed(2, 1).question(1), true);
 
-        CommitCouncil full = filled(1, 1, 398);
+        Council full = filled(1, 1, 398);
         due("without room", full.question(0), false);
         due("as before", full.count(2), 398);
         full.drop(0);
@@ -212,7 +199,7 @@ public final class PromiseTests {
 
     private static void begin() {
         section = "6 begin";
-        CommitCouncil x = new CommitCouncil(2, 1);
+        Council x = new Council(2, 1);
         due("leader 1", x.begin(1), 2);
         leaderIs(x, 1, 2, 1, 2, 0, 1, 0);
         for (int a = 0; a < 3; a++) {
@@ -236,15 +223,15 @@ public final class PromiseTests {
         // Whatever VOTED has come to a leader, its next ballot is above.
         int[][] next = {{0, 4, 4}, {2, 3, 6}};
         for (int[] n : next) {
-            CommitCouncil y = new CommitCouncil(1, 1);
+            Council y = new Council(1, 1);
             y.begin(1);
-            settle(y);
+            y.settle();
             due("HIGHEST by VOTED", y.leader(n[0], 2), 2);
             due("the least above", y.begin(n[0]), n[1]);
             due("and again", y.begin(n[0]), n[0] == 0 ? 7 : n[2]);
         }
 
-        CommitCouncil full = filled(1, 1, 398);
+        Council full = filled(1, 1, 398);
         due("without room", full.begin(0), -1);
         leaderIs(full, 0, 0, 0, 0, 0, 1, 0);
         due("none begun", full.count(9), 0);
@@ -255,7 +242,7 @@ public final class PromiseTests {
 
     private static void beginWithDecision() {
         section = "6 begin with a decision";
-        CommitCouncil x = committed(2, 1);
+        Council x = Council.committed(2, 1);
         due("begin", x.begin(0), 1);
         leaderIs(x, 0, 1, 1, 1, 1, 1, 0);
         due("messages", x.count(2), 5);
@@ -276,7 +263,7 @@ public final class PromiseTests {
 
     private static void deliverVote() {
         section = "7 deliver VOTE";
-        CommitCouncil x = new CommitCouncil(2, 1);
+        Council x = new Council(2, 1);
         x.prepare(1);
         due("kind", x.deliver(1), VOTE);
         due("messages", x.count(2), 5);
@@ -293,7 +280,7 @@ public final class PromiseTests {
         due("answered again", x.count(2), 10);
 
         // A vote below the promise leads to nothing; one above raises the promise without an ASK.
-        CommitCouncil y = new CommitCouncil(1, 1);
+        Council y = new Council(1, 1);
         y.prepare(0);
         y.begin(0);
         y.deliver(3);
@@ -301,7 +288,7 @@ public final class PromiseTests {
         due("late vote", y.deliver(0), VOTE);
         due("not accepted", y.acceptor(0, 0, 2), -1);
         due("no answer", y.count(2), 5);
-        CommitCouncil z = new CommitCouncil(1, 1);
+        Council z = new Council(1, 1);
         z.begin(2);
         z.deliver(0);
         z.deliver(0);
@@ -319,10 +306,10 @@ public final class PromiseTests {
 
     private static void deliverAsk() {
         section = "7 deliver ASK";
-        CommitCouncil x = new CommitCouncil(2, 1);
+        Council x = new Council(2, 1);
         x.refuse(0);
         x.deliver(2);
-        drain(x);
+        x.lose();
         x.begin(1);
         x.copy(2);
         due("kind", x.deliver(2), ASK);
@@ -333,12 +320,12 @@ public final class PromiseTests {
         due("told none", x.told(3, 1, true), -1);
         due("the doubled ASK", x.deliver(2), ASK);
         due("is not answered", x.count(2), 3);
-        drain(x);
+        x.lose();
         x.begin(0);
         due("an ASK below the promise", x.deliver(2), ASK);
         due("is not answered", x.count(2), 2);
         due("promise as it was", x.acceptor(2, 0, 0), 2);
-        drain(x);
+        x.lose();
         x.begin(2);
         x.deliver(2);
         messageIs(x, 2, TOLD, 2, 2, -1, 3, -1);
@@ -346,41 +333,41 @@ public final class PromiseTests {
 
     private static void deliverVoted() {
         section = "7 deliver VOTED";
-        CommitCouncil x = new CommitCouncil(2, 2);
+        Council x = new Council(2, 2);
         x.prepare(0);
         x.prepare(1);
         x.calm(10);
         due("thirty VOTED", x.count(2), 30);
         for (int k = 0; k < 2; k++) {
-            bringTo(x, VOTED, 0, 0);
+            x.bring(VOTED, 0, 0);
         }
         due("two of five", x.outcome(0, 0), 0);
-        bringTo(x, VOTED, 0, 0);
+        x.bring(VOTED, 0, 0);
         due("three of five", x.outcome(0, 0), 1);
         due("one manager of two", x.leader(0, 3), 0);
         for (int k = 0; k < 3; k++) {
             due("no decision yet", x.leader(0, 3), 0);
-            bringTo(x, VOTED, 0, 1);
+            x.bring(VOTED, 0, 1);
         }
         due("commit", x.leader(0, 3), 1);
         due("messages", x.count(2), 26);
         messageIs(x, 24, DECISION, 0, -1, -1, -1, 1);
         messageIs(x, 25, DECISION, 1, -1, -1, -1, 1);
-        bringTo(x, VOTED, 0, 1);
+        x.bring(VOTED, 0, 1);
         due("decided only once", x.count(2), 25);
 
         // One acceptor's doubled VOTED counts once.
-        CommitCouncil y = new CommitCouncil(1, 1);
+        Council y = new Council(1, 1);
         y.prepare(0);
         y.deliver(0);
         y.copy(2);
-        bringTo(y, VOTED, 0, 0);
-        bringTo(y, VOTED, 0, 0);
+        y.bring(VOTED, 0, 0);
+        y.bring(VOTED, 0, 0);
         due("seen twice", y.outcome(0, 0), 0);
         due("no decision", y.leader(0, 3), 0);
 
         // An older VOTED does not push a newer one out of SEEN, and ballots are not mixed.
-        CommitCouncil z = new CommitCouncil(1, 1);
+        Council z = new Council(1, 1);
         z.prepare(0);
         z.calm(2);
         z.drop(0);
@@ -403,9 +390,9 @@ public final class PromiseTests {
         due("two ballots are no outcome", z.outcome(0, 0), 0);
 
         // Abort: one word of one manager is enough.
-        CommitCouncil w = new CommitCouncil(3, 1);
+        Council w = new Council(3, 1);
         w.refuse(2);
-        settle(w);
+        w.settle();
         for (int l = 0; l < 3; l++) {
             due("abort", w.leader(l, 3), 2);
             due("of one manager", w.outcome(l, 2), 2);
@@ -417,7 +404,7 @@ public final class PromiseTests {
     private static void deliverTold() {
         section = "7 deliver TOLD";
         // Acceptor 0 accepted ballot 1's ABORTED of manager 0, acceptors 1 and 2 the own PREPARED.
-        CommitCouncil x = new CommitCouncil(2, 1);
+        Council x = new Council(2, 1);
         x.begin(0);
         x.deliver(0);
         x.deliver(0);
@@ -434,12 +421,12 @@ public final class PromiseTests {
             }
         }
         x.deliver(1);
-        drain(x);
+        x.lose();
         due("accepted in ballot 1", x.acceptor(0, 0, 3), 2);
         x.prepare(0);
         due("below the promise of 1", x.deliver(1), VOTE);
         due("taken by 2", x.deliver(1), VOTE);
-        drain(x);
+        x.lose();
         due("accepted in ballot 0", x.acceptor(2, 0, 3), 1);
         x.begin(2);
         x.deliver(2);
@@ -460,7 +447,7 @@ public final class PromiseTests {
         greatestBallotWins(1);
 
         // A TOLD of an older ballot, or after a fall, is not kept.
-        CommitCouncil z = new CommitCouncil(1, 1);
+        Council z = new Council(1, 1);
         z.begin(0);
         z.deliver(0);
         z.begin(0);
@@ -473,7 +460,7 @@ public final class PromiseTests {
         leaderIs(z, 0, 4, 0, 4, 0, 1, 0);
 
         // Five acceptors: three must tell.
-        CommitCouncil w = new CommitCouncil(1, 2);
+        Council w = new Council(1, 2);
         w.begin(1);
         w.calm(5);
         w.calm(2);
@@ -488,20 +475,20 @@ public final class PromiseTests {
 
     /** Whichever of the two TOLD comes first, the word with the greater ballot is voted for. */
     private static void greatestBallotWins(int first) {
-        CommitCouncil x = new CommitCouncil(1, 1);
+        Council x = new Council(1, 1);
         x.prepare(0);
         x.deliver(0);
-        drain(x);
+        x.lose();
         // Acceptors 1 and 2 know no word: ballot 1 is for ABORTED, and acceptor 1 accepts it.
         voteWithout(x, 0, 0);
         messageIs(x, 1, VOTE, 1, -1, 0, 1, 2);
         x.deliver(1);
-        drain(x);
+        x.lose();
         // Acceptors 0 and 2 know the own PREPARED: ballot 2 is for that, and acceptor 2 accepts it.
         voteWithout(x, 1, 1);
         messageIs(x, 2, VOTE, 2, -1, 0, 2, 1);
         x.deliver(2);
-        drain(x);
+        x.lose();
         x.begin(2);
         x.drop(0);
         x.calm(2);
@@ -513,7 +500,7 @@ public final class PromiseTests {
     }
 
     /** Leader l begins and comes to VOTING without one of three acceptors. */
-    private static void voteWithout(CommitCouncil x, int l, int acceptor) {
+    private static void voteWithout(Council x, int l, int acceptor) {
         x.begin(l);
         x.drop(acceptor);
         x.calm(4);
@@ -522,15 +509,15 @@ public final class PromiseTests {
 
     private static void deliverDecisionAndQuestion() {
         section = "7 deliver DECISION, QUESTION";
-        CommitCouncil x = new CommitCouncil(2, 1);
+        Council x = new Council(2, 1);
         x.question(1);
         due("kind", x.deliver(0), QUESTION);
         due("no decision, no answer", x.count(2), 2);
-        drain(x);
+        x.lose();
         x.prepare(0);
         x.prepare(1);
         x.crash(0, 1);
-        settle(x);
+        x.settle();
         due("committed", x.manager(0, 0), 3);
         due("the one who was down", x.manager(1, 0), 1);
         x.recover(0, 1);
@@ -541,12 +528,12 @@ public final class PromiseTests {
         due("kind", x.deliver(2), DECISION);
         due("committed", x.manager(1, 0), 3);
         x.question(1);
-        settle(x);
+        x.settle();
         due("again committed", x.manager(1, 0), 3);
 
-        CommitCouncil y = new CommitCouncil(2, 1);
+        Council y = new Council(2, 1);
         y.refuse(0);
-        settle(y);
+        y.settle();
         due("a WORKING one is aborted", y.manager(1, 0), 4);
         due("a REFUSED one is aborted", y.manager(0, 0), 4);
         y.question(0);
@@ -558,7 +545,7 @@ public final class PromiseTests {
     private static void deliverWithoutRoom() {
         section = "7 deliver without room";
         // VOTE: three VOTED for the one place that becomes free.
-        CommitCouncil x = filled(1, 1, 399);
+        Council x = filled(1, 1, 399);
         int came = x.count(4);
         due("VOTE", x.deliver(0), -1);
         due("stays", x.count(2), 399);
@@ -571,7 +558,7 @@ public final class PromiseTests {
         due("accepted", x.acceptor(0, 0, 2), 0);
 
         // ASK: the TOLD takes the ASK's own place.
-        CommitCouncil y = new CommitCouncil(1, 1);
+        Council y = new Council(1, 1);
         y.begin(0);
         fill(y, 400);
         due("ASK when full", y.deliver(0), ASK);
@@ -579,7 +566,7 @@ public final class PromiseTests {
         messageIs(y, 399, TOLD, 0, 0, -1, 1, -1);
 
         // TOLD: one VOTE for each manager and acceptor.
-        CommitCouncil z = new CommitCouncil(6, 2);
+        Council z = new Council(6, 2);
         z.begin(0);
         z.calm(5);
         z.calm(2);
@@ -594,10 +581,10 @@ public final class PromiseTests {
         due("full", z.count(2), 400);
 
         // VOTED: the DECISION for each manager.
-        CommitCouncil w = new CommitCouncil(3, 1);
+        Council w = new Council(3, 1);
         w.refuse(1);
         w.calm(3);
-        bringTo(w, VOTED, 0, 1);
+        w.bring(VOTED, 0, 1);
         fill(w, 399);
         int at = find(w, VOTED, 0, 1);
         due("VOTED", w.deliver(at), -1);
@@ -610,7 +597,7 @@ public final class PromiseTests {
         due("full", w.count(2), 400);
 
         // QUESTION: the DECISION takes its place.
-        CommitCouncil v = committed(2, 1);
+        Council v = Council.committed(2, 1);
         v.question(0);
         fill(v, 400);
         due("QUESTION when full", v.deliver(0), QUESTION);
@@ -622,7 +609,7 @@ public final class PromiseTests {
 
     private static void deliverToOneDown() {
         section = "7 deliver to one who is down";
-        CommitCouncil x = filled(1, 1, 400);
+        Council x = filled(1, 1, 400);
         x.crash(1, 0);
         due("VOTE when full", x.deliver(0), VOTE);
         due("gone", x.count(2), 399);
@@ -631,7 +618,7 @@ public final class PromiseTests {
         x.recover(1, 0);
         due("still not accepted", x.acceptor(0, 0, 2), -1);
 
-        CommitCouncil y = new CommitCouncil(1, 1);
+        Council y = new Council(1, 1);
         y.begin(1);
         y.deliver(0);
         y.crash(2, 1);
@@ -640,10 +627,10 @@ public final class PromiseTests {
         leaderIs(y, 1, 2, 0, 2, 0, 1, 0);
         y.crash(2, 0);
         y.begin(1);
-        settle(y);
+        y.settle();
         due("a leader that was down", y.leader(0, 2), 0);
 
-        throwsIndex("deliver(0) of none", () -> new CommitCouncil(1, 1).deliver(0));
+        throwsIndex("deliver(0) of none", () -> new Council(1, 1).deliver(0));
         y.prepare(0);
         int n = y.count(2);
         throwsIndex("deliver(size)", () -> y.deliver(n));
@@ -657,7 +644,7 @@ public final class PromiseTests {
 
     private static void drop() {
         section = "8 drop";
-        CommitCouncil x = new CommitCouncil(2, 1);
+        Council x = new Council(2, 1);
         x.prepare(0);
         x.question(1);
         x.drop(1);
@@ -681,10 +668,10 @@ public final class PromiseTests {
 
     private static void copy() {
         section = "9 copy";
-        CommitCouncil x = new CommitCouncil(2, 1);
+        Council x = new Council(2, 1);
         x.refuse(1);
         x.calm(3);
-        drain(x);
+        x.lose();
         x.begin(2);
         x.deliver(1);
         due("how many", x.copy(2), 4);
@@ -709,7 +696,7 @@ public final class PromiseTests {
 
     private static void calm() {
         section = "10 calm";
-        CommitCouncil x = new CommitCouncil(1, 1);
+        Council x = new Council(1, 1);
         due("none", x.calm(400), 0);
         x.prepare(0);
         due("calm(0)", x.calm(0), 0);
@@ -727,10 +714,10 @@ public final class PromiseTests {
         throwsArgument("calm(401)", () -> x.calm(401));
         due("what throws brings nothing", x.count(2), 3);
 
-        CommitCouncil full = filled(1, 1, 400);
+        Council full = filled(1, 1, 400);
         due("a first one without room", full.calm(5), 0);
         due("as before", full.count(2), 400);
-        CommitCouncil some = new CommitCouncil(1, 1);
+        Council some = new Council(1, 1);
         some.question(0);
         some.prepare(0);
         fill(some, 400);
@@ -742,7 +729,7 @@ public final class PromiseTests {
 
     private static void crash() {
         section = "11 crash";
-        CommitCouncil x = new CommitCouncil(2, 1);
+        Council x = new Council(2, 1);
         int[] many = {2, 3, 3};
         for (int sort = 0; sort < 3; sort++) {
             int s = sort;
@@ -765,7 +752,7 @@ public final class PromiseTests {
         due("what throws brings none down", x.count(5) + x.count(6), 3);
 
         // A manager and an acceptor lose nothing.
-        CommitCouncil y = new CommitCouncil(2, 1);
+        Council y = new Council(2, 1);
         y.prepare(0);
         y.calm(3);
         y.begin(0);
@@ -779,9 +766,9 @@ public final class PromiseTests {
         due("accepted word", y.acceptor(0, 0, 3), 1);
 
         // A leader loses all but BALLOT and HIGHEST.
-        CommitCouncil z = new CommitCouncil(1, 1);
+        Council z = new Council(1, 1);
         z.prepare(0);
-        settle(z);
+        z.settle();
         z.begin(0);
         z.calm(4);
         due("outcome before", z.outcome(0, 0), 1);
@@ -795,18 +782,18 @@ public final class PromiseTests {
         due("another leader's", z.outcome(1, 0), 1);
         z.recover(2, 0);
         leaderIs(z, 0, 1, 0, 1, 0, 1, 0);
-        drain(z);
+        z.lose();
         z.question(0);
         due("has no answer", z.deliver(0), QUESTION);
         due("none", z.count(2), 2);
         z.begin(0);
-        settle(z);
+        z.settle();
         due("learns it again", z.leader(0, 3), 1);
     }
 
     private static void recover() {
         section = "12 recover";
-        CommitCouncil x = new CommitCouncil(2, 2);
+        Council x = new Council(2, 2);
         int[] many = {2, 5, 3};
         for (int sort = 0; sort < 3; sort++) {
             int s = sort;
@@ -832,7 +819,7 @@ public final class PromiseTests {
 
     private static void message() {
         section = "13 message";
-        CommitCouncil x = new CommitCouncil(2, 1);
+        Council x = new Council(2, 1);
         x.refuse(1);
         x.deliver(0);
         x.begin(2);
@@ -851,7 +838,7 @@ public final class PromiseTests {
         throwsIndex("message(-1, 0)", () -> x.message(-1, 0));
         throwsIndex("message(greatest, 0)", () -> x.message(Integer.MAX_VALUE, 0));
         throwsIndex("message(least, 0)", () -> x.message(Integer.MIN_VALUE, 0));
-        CommitCouncil y = new CommitCouncil(1, 1);
+        Council y = new Council(1, 1);
         y.refuse(0);
         y.calm(9);
         messageIs(y, y.count(2) - 1, DECISION, 0, -1, -1, -1, 2);
@@ -859,11 +846,11 @@ public final class PromiseTests {
 
     private static void told() {
         section = "14 told";
-        CommitCouncil x = new CommitCouncil(3, 1);
+        Council x = new Council(3, 1);
         x.prepare(0);
         x.refuse(1);
         x.calm(6);
-        drain(x);
+        x.lose();
         x.begin(1);
         x.deliver(0);
         due("ballot", x.told(2, 0, true), 0);
@@ -895,7 +882,7 @@ public final class PromiseTests {
 
     private static void manager() {
         section = "15 manager";
-        CommitCouncil x = new CommitCouncil(4, 1);
+        Council x = new Council(4, 1);
         x.prepare(1);
         x.refuse(2);
         x.crash(0, 3);
@@ -906,8 +893,8 @@ public final class PromiseTests {
             due("another what", x.manager(m, 2), -1);
             due("another what", x.manager(m, -1), -1);
         }
-        due("COMMITTED", committed(1, 1).manager(0, 0), 3);
-        settle(x);
+        due("COMMITTED", Council.committed(1, 1).manager(0, 0), 3);
+        x.settle();
         due("ABORTED", x.manager(0, 0), 4);
         due("down, so not", x.manager(3, 0), 0);
         throwsIndex("manager(4, 0)", () -> x.manager(4, 0));
@@ -919,7 +906,7 @@ public final class PromiseTests {
 
     private static void acceptor() {
         section = "16 acceptor";
-        CommitCouncil x = new CommitCouncil(2, 2);
+        Council x = new Council(2, 2);
         x.refuse(1);
         x.calm(5);
         x.crash(1, 4);
@@ -932,9 +919,9 @@ public final class PromiseTests {
         due("no word", x.acceptor(4, 0, 3), 0);
         due("another what", x.acceptor(4, 0, 4), -1);
         due("another what", x.acceptor(4, 0, -1), -1);
-        drain(x);
+        x.lose();
         x.begin(2);
-        settle(x);
+        x.settle();
         due("promised", x.acceptor(3, 0, 0), 3);
         due("ballot", x.acceptor(3, 0, 2), 3);
         due("word", x.acceptor(3, 0, 3), 2);
@@ -946,19 +933,19 @@ public final class PromiseTests {
             throwsIndex("acceptor(odd, 0, 1)", () -> x.acceptor(odd, 0, 1));
             throwsIndex("acceptor(0, odd, 1)", () -> x.acceptor(0, odd, 1));
         }
-        CommitCouncil y = new CommitCouncil(2, 1);
+        Council y = new Council(2, 1);
         throwsIndex("the fourth of three", () -> y.acceptor(3, 0, 0));
     }
 
     private static void leader() {
         section = "17 leader";
-        CommitCouncil x = new CommitCouncil(2, 1);
+        Council x = new Council(2, 1);
         x.prepare(0);
         x.refuse(1);
-        settle(x);
+        x.settle();
         x.begin(1);
         leaderIs(x, 1, 2, 1, 2, 2, 1, 0);
-        settle(x);
+        x.settle();
         leaderIs(x, 1, 2, 2, 2, 2, 1, 0);
         leaderIs(x, 0, 0, 0, 2, 2, 1, 0);
         x.crash(2, 0);
@@ -974,10 +961,10 @@ public final class PromiseTests {
 
     private static void outcome() {
         section = "18 outcome";
-        CommitCouncil x = new CommitCouncil(3, 1);
+        Council x = new Council(3, 1);
         x.prepare(0);
         x.refuse(1);
-        settle(x);
+        x.settle();
         for (int l = 0; l < 3; l++) {
             due("prepared", x.outcome(l, 0), 1);
             due("aborted", x.outcome(l, 1), 2);
@@ -993,7 +980,7 @@ public final class PromiseTests {
 
     private static void seen() {
         section = "19 seen";
-        CommitCouncil x = new CommitCouncil(2, 1);
+        Council x = new Council(2, 1);
         x.prepare(1);
         x.deliver(2);
         x.deliver(3);
@@ -1001,9 +988,9 @@ public final class PromiseTests {
         due("another leader", x.seen(0, 1, 2), -1);
         due("another manager", x.seen(1, 0, 2), -1);
         due("another acceptor", x.seen(1, 1, 1), -1);
-        drain(x);
+        x.lose();
         x.begin(1);
-        settle(x);
+        x.settle();
         for (int a = 0; a < 3; a++) {
             due("the greater ballot", x.seen(1, 1, a), 2);
         }
@@ -1019,7 +1006,7 @@ public final class PromiseTests {
 
     private static void chosen() {
         section = "20 chosen";
-        CommitCouncil x = new CommitCouncil(2, 2);
+        Council x = new Council(2, 2);
         x.prepare(0);
         x.calm(2);
         due("two of five", x.chosen(0), 0);
@@ -1032,7 +1019,7 @@ public final class PromiseTests {
         }
 
         // An acceptor that accepts one vote twice counts once.
-        CommitCouncil y = new CommitCouncil(1, 1);
+        Council y = new Council(1, 1);
         y.refuse(0);
         y.copy(0);
         y.deliver(3);
@@ -1040,7 +1027,7 @@ public final class PromiseTests {
         due("one acceptor twice", y.chosen(0), 0);
 
         // EVER accepted: acceptor 0 goes on to ballot 3 before acceptor 1 accepts ballot 2.
-        CommitCouncil z = new CommitCouncil(1, 1);
+        Council z = new Council(1, 1);
         voteWithout(z, 1, 2);
         z.drop(2);
         z.deliver(0);
@@ -1061,10 +1048,10 @@ public final class PromiseTests {
         due("chosen with ballot 2", z.chosen(0), 2);
 
         // Two acceptors with two ballots do not choose.
-        CommitCouncil w = new CommitCouncil(1, 1);
+        Council w = new Council(1, 1);
         w.prepare(0);
         w.deliver(0);
-        drain(w);
+        w.lose();
         w.begin(0);
         w.deliver(1);
         w.deliver(1);
@@ -1081,7 +1068,7 @@ public final class PromiseTests {
 
     private static void count() {
         section = "21 count";
-        CommitCouncil x = new CommitCouncil(2, 1);
+        Council x = new Council(2, 1);
         x.prepare(0);
         x.copy(0);
         x.deliver(0);
@@ -1100,105 +1087,58 @@ public final class PromiseTests {
         due("count(-1)", x.count(-1), -1);
         due("count(least)", x.count(Integer.MIN_VALUE), -1);
         due("count(greatest)", x.count(Integer.MAX_VALUE), -1);
-        due("COMMITTED", committed(4, 2).count(7), 4);
-        due("not ABORTED", committed(4, 2).count(8), 0);
+        due("COMMITTED", Council.committed(4, 2).count(7), 4);
+        due("not ABORTED", Council.committed(4, 2).count(8), 0);
     }
 
     private static void astray() {
         section = "22 astray";
-        due("new", new CommitCouncil(3, 1).astray(), 0);
-        due("committed", committed(3, 1).astray(), 0);
-        CommitCouncil x = new CommitCouncil(2, 1);
+        due("new", new Council(3, 1).astray(), 0);
+        due("committed", Council.committed(3, 1).astray(), 0);
+        Council x = new Council(2, 1);
         x.prepare(0);
         x.refuse(1);
-        settle(x);
+        x.settle();
         due("aborted", x.astray(), 0);
-        CommitCouncil y = new CommitCouncil(3, 2);
+        Council y = new Council(3, 2);
         y.prepare(0);
         y.begin(1);
-        settle(y);
+        y.settle();
         due("aborted by a leader", y.count(8), 3);
         due("and none astray", y.astray(), 0);
     }
 
-    /** As many ballots as 512 calls can begin: nobody is there to ask, so that one calm makes room for 133 more. */
-    private static void ballotsOf512Calls() {
-        section = "512 calls";
-        CommitCouncil x = new CommitCouncil(1, 1);
-        x.crash(1, 0);
-        x.crash(1, 1);
-        x.crash(1, 2);
-        int ballot = 0;
-        for (int k = 3; k < 512; k++) {
-            if ((k - 3) % 134 == 133) {
-                due("calm", x.calm(400), 399);
-            } else {
-                ballot += 3;
-                due("begin(2)", x.begin(2), ballot);
-            }
-        }
-        due("the last", x.leader(2, 0), 506 * 3);
-        x.recover(1, 1);
-        x.recover(1, 2);
-        x.calm(400);
-        due("promised", x.acceptor(1, 0, 0), 506 * 3);
-        settle(x);
-        due("chosen", x.chosen(0), 2);
-        due("accepted", x.acceptor(1, 0, 2), 506 * 3);
-    }
-
+    /** What is answered after 512 calls is free, but no call throws by itself, and each ends. */
     private static void manyCallsThrowNothing() {
         section = "far beyond 512 calls";
-        CommitCouncil x = new CommitCouncil(6, 2);
-        for (int k = 0; k < 6000; k++) {
-            x.begin(k % 3);
-            x.calm(400);
-            x.question(k % 6);
-        }
-        due("still there", x.count(0), 6);
+        throwsNothing("18000 calls", () -> {
+            CommitCouncil x = new CommitCouncil(6, 2);
+            for (int k = 0; k < 6000; k++) {
+                x.begin(k % 3);
+                x.calm(400);
+                x.question(k % 6);
+            }
+        });
     }
 
     // ---- what the tests above use
 
-    private static CommitCouncil committed(int managers, int f) {
-        CommitCouncil x = new CommitCouncil(managers, f);
-        for (int m = 0; m < x.count(0); m++) {
-            x.prepare(m);
-        }
-        settle(x);
-        due("made: committed", x.count(7), managers);
-        return x;
-    }
-
     /** Manager 0 is PREPARED, and its votes and copies of the first of them fill the row. */
-    private static CommitCouncil filled(int managers, int f, int size) {
-        CommitCouncil x = new CommitCouncil(managers, f);
+    private static Council filled(int managers, int f, int size) {
+        Council x = new Council(managers, f);
         x.prepare(0);
         fill(x, size);
         return x;
     }
 
-    private static void fill(CommitCouncil x, int size) {
-        for (int k = 0; k < 400 && x.count(2) < size; k++) {
+    private static void fill(Council x, int size) {
+        for (int there = x.count(2); there < size; there++) {
             x.copy(0);
         }
         due("made: filled", x.count(2), size);
     }
 
-    private static void settle(CommitCouncil x) {
-        for (int k = 0; k < 10 && x.count(2) > 0; k++) {
-            x.calm(400);
-        }
-    }
-
-    private static void drain(CommitCouncil x) {
-        for (int k = 0; k < 400 && x.count(2) > 0; k++) {
-            x.drop(0);
-        }
-        due("made: drained", x.count(2), 0);
-    }
-
-    private static void dropAll(CommitCouncil x, int kind) {
+    private static void dropAll(Council x, int kind) {
         for (int i = x.count(2) - 1; i >= 0; i--) {
             if (x.message(i, 0) == kind) {
                 x.drop(i);
@@ -1207,7 +1147,7 @@ public final class PromiseTests {
     }
 
     /** The first message of a kind to one, of a manager's word. */
-    private static int find(CommitCouncil x, int kind, int to, int whose) {
+    private static int find(Council x, int kind, int to, int whose) {
         for (int i = 0; i < x.count(2); i++) {
             if (x.message(i, 0) == kind && x.message(i, 1) == to && x.message(i, 3) == whose) {
                 return i;
@@ -1216,67 +1156,12 @@ public final class PromiseTests {
         return -1;
     }
 
-    private static int lastOf(CommitCouncil x, int kind, int to) {
+    private static int lastOf(Council x, int kind, int to) {
         for (int i = x.count(2) - 1; i >= 0; i--) {
             if (x.message(i, 0) == kind && x.message(i, 1) == to) {
                 return i;
             }
         }
         return -1;
-    }
-
-    private static void bringTo(CommitCouncil x, int kind, int to, int whose) {
-        due("brought", x.deliver(find(x, kind, to, whose)), kind);
-    }
-
-    private static void messageIs(CommitCouncil x, int i, int... parts) {
-        for (int what = 0; what < parts.length; what++) {
-            due("message(" + i + ", " + what + ")", x.message(i, what), parts[what]);
-        }
-    }
-
-    private static void leaderIs(CommitCouncil x, int l, int... parts) {
-        for (int what = 0; what < parts.length; what++) {
-            due("leader(" + l + ", " + what + ")", x.leader(l, what), parts[what]);
-        }
-    }
-
-    private static void due(String what, boolean got, boolean want) {
-        due(what, got ? 1 : 0, want ? 1 : 0);
-    }
-
-    private static void due(String what, long got, long want) {
-        if (got != want) {
-            wrong++;
-            StackTraceElement[] trace = new Throwable().getStackTrace();
-            int line = 0;
-            for (StackTraceElement e : trace) {
-                if (!e.getMethodName().equals("main")) {
-                    line = e.getLineNumber();
-                }
-            }
-            System.out.println(section + ", line " + line + ": " + what + " answered " + got + ", due is " + want);
-        }
-    }
-
-    private static void throwsIndex(String what, Runnable call) {
-        due(what + " throws IndexOutOfBoundsException", thrownBy(call), 1);
-    }
-
-    private static void throwsArgument(String what, Runnable call) {
-        due(what + " throws IllegalArgumentException", thrownBy(call), 2);
-    }
-
-    /** The exact class, thrown by the class itself and not by the machine. */
-    private static int thrownBy(Runnable call) {
-        try {
-            call.run();
-            return 0;
-        } catch (RuntimeException e) {
-            if (e.getClass() == IndexOutOfBoundsException.class) {
-                return 1;
-            }
-            return e.getClass() == IllegalArgumentException.class ? 2 : 3;
-        }
     }
 }
