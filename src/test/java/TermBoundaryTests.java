@@ -1,3 +1,5 @@
+import java.util.ArrayList;
+import java.util.List;
 import java.util.function.Consumer;
 import java.util.function.ToIntFunction;
 
@@ -876,6 +878,19 @@ public final class TermBoundaryTests extends Check {
         x.settle();
         due("above", x.seen(1, 0, 2), 1);
 
+        Council z = new Council(1, 1);
+        z.begin(2);
+        z.deliver(0);
+        z.deliver(0);
+        z.deliver(1);
+        z.deliver(1);
+        z.deliver(1);
+        messageIs(z, 5, VOTED, 2, 0, 0, 3, 2);
+        z.deliver(5);
+        due("seen", z.seen(2, 0, 0), 3);
+        due("nothing goes out by it", z.count(2), 5);
+        due("no acceptor hears of it", z.acceptor(2, 0, 0), 0);
+
         Views.comesToNothing("a VOTED of the same ballot", 2, 1, y -> {
             y.prepare(0);
             y.calm(3);
@@ -918,6 +933,38 @@ public final class TermBoundaryTests extends Check {
             }
         }
         twoBallotsAreNotOne();
+        eachManagersSeenByItself();
+    }
+
+    /** Half the acceptors of one manager and one of another do not come together, whichever these are. */
+    private static void eachManagersSeenByItself() {
+        for (int[] c : twoManagersAndHalf()) {
+            Council x = new Council(6, 2);
+            x.prepare(c[0]);
+            x.prepare(c[1]);
+            x.calm(10);
+            x.deliver(15 + 3 * c[2]);
+            x.deliver(3 * c[4]);
+            x.deliver(3 * c[3]);
+            due("two of five of " + c[0], x.outcome(0, c[0]), 0);
+            due("one of five of " + c[1], x.outcome(0, c[1]), 0);
+            x.bring(VOTED, 0, c[0]);
+            due("three of five of " + c[0], x.outcome(0, c[0]), 1);
+            due("one of five of " + c[1], x.outcome(0, c[1]), 0);
+        }
+    }
+
+    /** Two managers, an acceptor of the second, and two acceptors of the first: every choice of these. */
+    private static List<int[]> twoManagersAndHalf() {
+        List<int[]> made = new ArrayList<>();
+        for (int k = 0; k < 6 * 6 * 5 * 5 * 5; k++) {
+            int[] c = {k % 6, k / 6 % 6, k / 36 % 5, k / 180 % 5, k / 900};
+            if (c[0] != c[1] && c[3] < c[4]) {
+                made.add(c);
+            }
+        }
+        due("made: choices", made.size(), 6 * 5 * 5 * 10);
+        return made;
     }
 
     private static void twoBallotsAreNotOne() {
@@ -1108,6 +1155,23 @@ public final class TermBoundaryTests extends Check {
         due("one acceptor twice", twice.chosen(0), 0);
         chosenWithOneBallot();
         everAccepted();
+        eachManagersChosenByItself();
+    }
+
+    private static void eachManagersChosenByItself() {
+        for (int[] c : twoManagersAndHalf()) {
+            Council x = new Council(6, 2);
+            x.prepare(c[0]);
+            x.refuse(c[1]);
+            x.deliver(5 + c[2]);
+            x.deliver(c[4]);
+            x.deliver(c[3]);
+            due("two of five of " + c[0], x.chosen(c[0]), 0);
+            due("one of five of " + c[1], x.chosen(c[1]), 0);
+            x.deliver(0);
+            due("three of five of " + c[0], x.chosen(c[0]), 1);
+            due("one of five of " + c[1], x.chosen(c[1]), 0);
+        }
     }
 
     private static void chosenWithOneBallot() {
